@@ -651,21 +651,23 @@ public final class BellFoundry {
         int awry;
         boolean known;
         long chosen;
-        final int[] order;
-        int sound;
+        final int[] sound;
+        int soundCount;
         final int[] weights;
         final int[] tones;
-        final int[] offered;
-        final long[] least;
+        final int[] holders;
+        final long[] reach;
+        final int[] cameFrom;
 
         Chooser() {
             steps = new int[MOST_NOTES];
-            order = new int[MOST_BELLS];
+            chosen = NO_CHOICE;
+            sound = new int[MOST_BELLS];
             weights = new int[MOST_BELLS];
             tones = new int[MOST_BELLS];
-            offered = new int[MOST_NOTES];
-            least = new long[1 << (MOST_NOTES - 1)];
-            chosen = NO_CHOICE;
+            holders = new int[MOST_BELLS];
+            reach = new long[MOST_BELLS];
+            cameFrom = new int[MOST_BELLS];
         }
 
         void forget() {
@@ -705,8 +707,8 @@ public final class BellFoundry {
                 return;
             }
             weigh(bells, bellCount);
-            for (int i = 0; i < sound; i++) {
-                chosen = Math.min(chosen, leastWithFirst(order[i]));
+            for (int i = 0; i < soundCount; i++) {
+                chosen = Math.min(chosen, leastWithFirst(sound[i]));
             }
         }
 
@@ -718,70 +720,96 @@ public final class BellFoundry {
             return ((long) weights[bell] << CODE_BITS) + ((long) bell << placeOf(note));
         }
 
-        /** Puts the bells that aren't cracked in order, light ones first, and of the same weight the lower first. */
         private void weigh(Bell[] bells, int bellCount) {
-            sound = 0;
+            soundCount = 0;
             for (int b = 0; b < bellCount; b++) {
                 Bell of = bells[b];
                 if (of != null && !of.isCracked) {
                     weights[b] = of.weightNow();
                     tones[b] = of.partNow(0);
-                    putInOrder(b);
+                    sound[soundCount] = b;
+                    soundCount++;
                 }
             }
         }
 
-        private void putInOrder(int bell) {
-            int at = sound;
-            while (at > 0 && weights[order[at - 1]] > weights[bell]) {
-                order[at] = order[at - 1];
-                at--;
-            }
-            order[at] = bell;
-            sound++;
-        }
-
-        /** The least choice whose first note has this bell: least[s] is that of the later notes in the set s. */
+        /** The least choice whose first note has this bell; given up as soon as it isn't below the one there is. */
         private long leastWithFirst(int first) {
-            int all = (1 << (notes - 1)) - 1;
-            Arrays.fill(least, NO_CHOICE);
-            Arrays.fill(offered, 0);
-            least[0] = numberOf(0, first);
-            for (int i = 0; i < sound; i++) {
-                int bell = order[i];
-                int fits = bell == first ? 0 : notesFor(bell, first);
-                if (fits != 0) {
-                    offer(bell, fits, all);
-                }
+            Arrays.fill(holders, NONE);
+            long together = numberOf(0, first);
+            for (int n = 1; n < notes && together < chosen; n++) {
+                long more = seat(n, first);
+                together = more == NO_CHOICE ? NO_CHOICE : together + more;
             }
-            return least[all];
+            return together;
         }
 
         /**
-         * The later notes that a bell may be chosen for. A note needs no more offers than there are later notes:
-         * the others can't take all of its lighter ones.
+         * Gives a note more a bell, by the chain that adds least: the note takes a bell, whose holder takes
+         * another, and so on to a bell that is free. If the notes before it had the least choice, they all have
+         * it then; if there is no such chain, there is no choice for them all.
          */
-        private int notesFor(int bell, int first) {
-            int fits = 0;
-            for (int n = 1; n < notes; n++) {
-                int off = tones[bell] - tones[first] - steps[n];
-                if (within(off, -awry, awry) && offered[n] < notes - 1) {
-                    offered[n]++;
-                    fits |= 1 << (n - 1);
-                }
+        private long seat(int note, int first) {
+            Arrays.fill(reach, NO_CHOICE);
+            boolean better = reachFrom(note, first, NONE, 0);
+            for (int moves = 1; moves < note && better; moves++) {
+                better = moveHolders(first);
             }
-            return fits;
+            int end = nearestFree();
+            if (end == NONE) {
+                return NO_CHOICE;
+            }
+            passAlong(note, end);
+            return reach[end];
         }
 
-        /** Larger sets first, so that the smaller ones that they build on are without this bell yet. */
-        private void offer(int bell, int fits, int all) {
-            for (int set = all; set > 0; set--) {
-                for (int n = 1; n < notes; n++) {
-                    int bit = 1 << (n - 1);
-                    if ((set & fits & bit) != 0 && least[set ^ bit] != NO_CHOICE) {
-                        least[set] = Math.min(least[set], least[set ^ bit] + numberOf(n, bell));
-                    }
+        private boolean moveHolders(int first) {
+            boolean better = false;
+            for (int i = 0; i < soundCount; i++) {
+                int bell = sound[i];
+                int holder = holders[bell];
+                if (holder != NONE && reach[bell] != NO_CHOICE
+                        && reachFrom(holder, first, bell, reach[bell] - numberOf(holder, bell))) {
+                    better = true;
                 }
+            }
+            return better;
+        }
+
+        /** What the chain adds up to at each bell that the note may take; whether one is reached for less. */
+        private boolean reachFrom(int note, int first, int from, long soFar) {
+            boolean better = false;
+            for (int i = 0; i < soundCount; i++) {
+                int bell = sound[i];
+                int off = tones[bell] - tones[first] - steps[note];
+                long there = soFar + numberOf(note, bell);
+                if (bell != first && within(off, -awry, awry) && there < reach[bell]) {
+                    reach[bell] = there;
+                    cameFrom[bell] = from;
+                    better = true;
+                }
+            }
+            return better;
+        }
+
+        private int nearestFree() {
+            int nearest = NONE;
+            for (int i = 0; i < soundCount; i++) {
+                int bell = sound[i];
+                if (holders[bell] == NONE && reach[bell] != NO_CHOICE
+                        && (nearest == NONE || reach[bell] < reach[nearest])) {
+                    nearest = bell;
+                }
+            }
+            return nearest;
+        }
+
+        private void passAlong(int note, int end) {
+            int bell = end;
+            for (int moves = 0; moves < note && bell != NONE; moves++) {
+                int from = cameFrom[bell];
+                holders[bell] = from == NONE ? note : holders[from];
+                bell = from;
             }
         }
     }

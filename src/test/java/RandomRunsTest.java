@@ -63,9 +63,9 @@ public final class RandomRunsTest {
     private void go() {
         int wrong = check.wrongSoFar();
         for (int i = 0; i < CALLS && check.wrongSoFar() == wrong; i++) {
-            int kind = i < 60 ? upTo(40) : 30 + upTo(100);
+            int kind = i < 120 ? 0 : 35 + upTo(95);
             if (kind < 40) {
-                make();
+                make(i < 100);
             } else if (kind < 70) {
                 work();
             } else if (kind < 100) {
@@ -77,9 +77,10 @@ public final class RandomRunsTest {
         askAll();
     }
 
-    private void make() {
+    /** Bells come behind most of the shaping, so that there is something to cut. */
+    private void make(boolean shaping) {
         int p = pick(0, Math.max(0, due.moulds.size() - 1));
-        switch (upTo(7)) {
+        switch (upTo(shaping ? 19 : 7)) {
             case 0: {
                 int w = pick(0, upTo(3) == 0 ? 5000 : 20);
                 same("profile " + w, got.profile(w), due.profile(w));
@@ -87,7 +88,7 @@ public final class RandomRunsTest {
             }
             case 1: {
                 int part = pick(0, 4);
-                int v = pick(upTo(1) == 0 ? -20000 : -50, upTo(1) == 0 ? 20000 : 50);
+                int v = upTo(5) == 0 ? pick(-20000, 20000) : pick(-50, 50);
                 same("base", got.base(p, part, v), due.base(p, part, v));
                 break;
             }
@@ -98,14 +99,15 @@ public final class RandomRunsTest {
                 break;
             }
             case 3:
-                if (due.bells.size() < mostBells) {
+                if (due.bells.size() < mostBells && (!shaping || upTo(3) == 0)) {
                     same("cast " + p, got.cast(p), due.cast(p));
                 }
                 break;
             default: {
                 int what = upTo(2) == 0 ? 7 : pick(0, 7);
                 int h = pick(0, 7);
-                int v = what < 5 ? pick(-50, 50) : what == 5 ? pick(1, 50) : what == 6 ? pick(0, 20) : pick(0, 99);
+                int steep = run % 2 == 0 ? 50 : 6;
+                int v = what < 5 ? pick(-steep, steep) : what == 5 ? pick(1, 50) : what == 6 ? pick(0, 20) : pick(0, 99);
                 same("shape", got.shape(p, what, h, v), due.shape(p, what, h, v));
             }
         }
@@ -125,12 +127,12 @@ public final class RandomRunsTest {
                 same("tuningAt " + b, got.tuningAt(b, h), due.tuningAt(b, h));
                 break;
             case 3:
-                if (upTo(6) == 0) {
+                if (upTo(12) == 0) {
                     same("old " + b, got.old(b), due.old(b));
                 }
                 break;
             case 4:
-                if (upTo(3) == 0) {
+                if (upTo(9) == 0) {
                     same("crack " + b, got.crack(b), due.crack(b));
                 }
                 break;
@@ -147,9 +149,9 @@ public final class RandomRunsTest {
     private void spanNear(int b) {
         int part = pick(0, 4);
         int at = (int) due.bellOf(b, Math.floorMod(part, 5)) + pick(-150, 150);
-        int wide = upTo(2) == 0 ? upTo(5) : upTo(1) == 0 ? upTo(100) : 20000;
-        int from = upTo(3) == 0 ? pick(-30000, 30000) : Math.max(-30000, at - wide);
-        int to = upTo(3) == 0 ? pick(-30000, 30000) : Math.min(30000, at + wide);
+        int wide = upTo(4) == 0 ? upTo(5) : upTo(1) == 0 ? 30 + upTo(150) : 60000;
+        int from = upTo(20) == 0 ? pick(-30000, 30000) : Math.max(-30000, at - wide);
+        int to = upTo(20) == 0 ? pick(-30000, 30000) : Math.min(30000, at + wide);
         same("span " + part + " " + from + " " + to, got.span(part, from, to), due.span(part, from, to));
     }
 

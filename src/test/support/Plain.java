@@ -301,7 +301,7 @@ final class Plain {
     private int[] best;
 
     private void goOn(int[] taken, int note, int soFar) {
-        if (best != null && soFar >= bestWeight && note < steps.size() && soFar > bestWeight) {
+        if (best != null && soFar > bestWeight) {
             return;
         }
         if (note == steps.size()) {
