@@ -121,6 +121,14 @@ public final class BellsTest {
         f.crack(5);
         C.due("a cracked one keeps its place", f.cast(0), -1);
         C.due("24 bells", f.about(1), 24);
+        C.due("their metal", f.about(5), 23);
+        C.due("their pulls", f.about(8), 0);
+        C.due("bellOf a 25th", f.bellOf(24, 5), -100000);
+        C.due("cut of a 25th", f.cut(24, 0), -1);
+        C.no("old", f.old(24));
+        C.no("crack", f.crack(24));
+        C.no("hang", f.hang(24, 0));
+        C.due("the last", f.bellOf(23, 5), 1);
         C.due("copper of 24", f.about(2), 1000000 - 24);
     }
 

@@ -42,6 +42,9 @@ public final class ProfilesTest {
         C.due("profile(8)", f.profile(8), 3);
         C.due("a fifth", f.profile(8), -1);
         C.due("four", f.about(0), 4);
+        C.no("shape of a fifth", f.shape(4, 0, 0, 0));
+        C.no("base of a fifth", f.base(4, 0, 0));
+        C.due("cast of a fifth", f.cast(4), -1);
         f.buy(1000000, 1000000);
         int[] weights = {0, 5000, 7, 8};
         for (int p = 0; p < 4; p++) {

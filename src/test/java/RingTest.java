@@ -11,6 +11,7 @@ public final class RingTest {
         firstStepDoesNotCount();
         noTwoTheSame();
         leastTogetherNotOneByOne();
+        chainsOfMoves();
         firstByNotes();
         crackedAndOld();
         changesAreSeen();
@@ -160,6 +161,17 @@ public final class RingTest {
         f = cast(500, 0, 0, 40, 100, 30, 600, 99);
         sing(f, 0, 0, 100);
         dueRing("the lightest first bell isn't in the lightest ring", f, 270, 1, 2);
+    }
+
+    /** The last note can have a bell only if those before it move on, each to another's. */
+    private static void chainsOfMoves() {
+        BellFoundry f = cast(0, 50, 10, 1, 20, 2, 30, 3, 40, 4, 50, 5, 60, 6, 70, 90);
+        sing(f, 5, 0, 15, 25, 35, 45, 55, 65);
+        dueRing("each its lightest", f, 700 + 50 + 21, 0, 1, 2, 3, 4, 5, 6);
+        f.note(10);
+        dueRing("all move on", f, 800 + 50 + 21 + 90, 0, 2, 3, 4, 5, 6, 7, 1);
+        f.crack(7);
+        dueNone("the last can't", f);
     }
 
     private static void firstByNotes() {

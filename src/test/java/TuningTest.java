@@ -156,6 +156,13 @@ public final class TuningTest {
         dueCuts("9 more", f, 1, 0, 0, 0, 0, 0, 0, 9);
         f.cut(0, 0);
         dueCuts("both are made", f, 0, 0, 0, 0, 0, 0, 0, 9);
+        f = Making.rich();
+        f.profile(10);
+        Making.height(f, 0, 2, 9, 0, 1);
+        Making.height(f, 0, 6, 9, 8, 30);
+        f.cast(0);
+        f.span(0, 0, 9 + 240 - 1);
+        dueCuts("one unit to spare above", f, 0, 0, 1, 0, 0, 0, 1);
     }
 
     private static void twelveAndThirteen() {
@@ -257,7 +264,12 @@ public final class TuningTest {
         C.due("metal", f.about(4) + f.about(5), 2 * f.bellOf(1, 5));
         C.due("tuned", f.tuning(0), 0);
         C.due("tune again", f.tune(0), 0);
-        C.due("no more trimmings", f.about(4), 25 + 2 * 26 + 2 * 27);
+        f.span(0, 18, 18);
+        C.due("tune by one", f.tune(0), 1);
+        C.due("it is made", f.bellOf(0, 15), 1);
+        f.span(0, 19, 24);
+        C.due("nothing comes back", f.tune(0), -1);
+        C.due("trimmings", f.about(4), 2 * 25 + 2 * 26 + 2 * 27);
     }
 
     private static void planIsMadeAnew() {
