@@ -617,9 +617,6 @@ public final class BellFoundry {
 
         /** False only if no such cuts can do: keeps the search from most of its branches; exact if none are left. */
         private boolean mayReach(int h, int left) {
-            if (left > roomFrom[h]) {
-                return false;
-            }
             for (int p = 0; p < PARTS; p++) {
                 int at = h * PARTS + p;
                 if (values[p] - left * lowest[at] < froms[p] || values[p] - left * highest[at] > tos[p]) {

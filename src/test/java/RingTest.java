@@ -16,6 +16,7 @@ public final class RingTest {
         crackedAndOld();
         changesAreSeen();
         fullRing();
+        heaviest();
         manyLikeBells();
         C.end();
     }
@@ -254,6 +255,23 @@ public final class RingTest {
         sing(f, 1, tones);
         bells = new int[] {23, 20, 17, 14, 11, 8, 5, 0};
         dueRing("one more or less", f, 800 + 28 - 7 + 17, bells);
+    }
+
+    private static void heaviest() {
+        BellFoundry f = Making.rich();
+        f.profile(5000);
+        for (int h = 0; h < 8; h++) {
+            f.shape(0, 5, h, 50);
+            f.shape(0, 7, h, 99);
+        }
+        for (int b = 0; b < 9; b++) {
+            C.due("cast", f.cast(0), b);
+        }
+        sing(f, 0, 0, 0, 0, 0, 0, 0, 0, 0);
+        dueRing("eight of the heaviest", f, 8 * 44600, 0, 1, 2, 3, 4, 5, 6, 7);
+        f.cut(8, 0);
+        f.cut(8, 0);
+        dueRing("one is lighter", f, 8 * 44600 - 100, 0, 1, 2, 3, 4, 5, 6, 8);
     }
 
     /** As many choices as can be: they are not to be gone through one by one. */
