@@ -22,7 +22,7 @@ public final class Promise16RingTest {
         C.due("a ninth", f.note(0), -1);
         f.ring(9);
         C.due("one note", f.note(4000), 1);
-        Rings.due(C, "the steps before are gone", f, 43, 3);
+        Rings.due(C, "the steps before are gone", f, 100, 0);
         C.yes("without notes", new BellFoundry().ring(0));
     }
 

@@ -84,7 +84,7 @@ public final class Terms1ProfilesAndBellsTest {
 
     private static void copperAndTinOfTheRest() {
         C.sentence("of the rest m copper (77 m + 99) / 100, cut, and as much tin as then lacks");
-        int[][] weightCopperTin = {{0, 0, 0}, {1, 1, 0}, {2, 2, 0}, {3, 3, 0}, {4, 4, 0}, {5, 4, 1}, {8, 7, 1}, {9, 7, 2},
+        int[][] weightCopperTin = {{0, 0, 0}, {1, 1, 0}, {2, 2, 0}, {3, 3, 0}, {4, 4, 0}, {5, 4, 1}, {8, 7, 1}, {9, 7, 2}, {13, 11, 2},
             {99, 77, 22}, {100, 77, 23}, {101, 78, 23}, {154, 119, 35}, {200, 154, 46}, {5000, 3850, 1150}};
         for (int[] w : weightCopperTin) {
             BellFoundry f = Making.rich();

@@ -131,6 +131,12 @@ public final class Terms3RingsAndHangingTest {
         Rings.due(C, "all move on", f, 961, 0, 2, 3, 4, 5, 6, 7, 1);
         f.crack(7);
         Rings.dueNone(C, "the last can't", f);
+        f = Making.withTones(70, 90, 60, 6, 50, 5, 40, 4, 30, 3, 20, 2, 10, 1, 0, 50);
+        Making.sing(f, 5, 0, 15, 25, 35, 45, 55, 65, 10);
+        Rings.due(C, "all move on, each to a lower bell", f, 961, 7, 5, 4, 3, 2, 1, 0, 6);
+        f = Making.withTones(10, 1, 15, 2, 0, 3);
+        Making.sing(f, 5, 0, 12, 8);
+        Rings.due(C, "the second note leaves bell 0 to the third", f, 306, 2, 1, 0);
     }
 
     private static void firstByNotes() {
