@@ -641,7 +641,7 @@ public final class BellFoundry {
     private static final class Chooser {
         private static final int BELL_BITS = 5;
         private static final int CODE_BITS = BELL_BITS * MOST_NOTES;
-        private static final long NO_CHOICE = Long.MAX_VALUE;
+        private static final long NO_CHOICE = 1L << 62;
 
         final int[] steps;
         int notes;
