@@ -53,6 +53,17 @@ public final class Promise13TuneTest {
         C.due("a bell with nothing to cut", Making.withBells(10).tune(0), 0);
     }
 
+    private static BellFoundry askedThen(boolean old) {
+        BellFoundry f = Making.busy();
+        f.tuning(0);
+        if (old) {
+            f.old(0);
+        } else {
+            f.crack(0);
+        }
+        return f;
+    }
+
     private static void others() {
         C.sentence("NONE as above.");
         for (int bell : Twins.others(-2, -1, 4, 5, 23, 24)) {
@@ -60,6 +71,8 @@ public final class Promise13TuneTest {
         }
         Twins.none(C, "old", Making::busy, f -> f.tune(1));
         Twins.none(C, "cracked", Making::busy, f -> f.tune(2));
+        Twins.none(C, "old since its tuning was asked", () -> askedThen(true), f -> f.tune(0));
+        Twins.none(C, "cracked since its tuning was asked", () -> askedThen(false), f -> f.tune(0));
         BellFoundry full = Making.fullOfBells();
         C.due("bell 23 of 24", full.tune(23), 1);
         C.due("bell 24 of 24", full.tune(24), -1);
